@@ -1,0 +1,28 @@
+/** Counts and prints the calls whose answer is not the one that is due. */
+final class Check {
+    private int wrong;
+    private int checked;
+
+    void due(String call, long got, long want) {
+        checked++;
+        if (got != want) {
+            wrong++;
+            System.out.println(call + " answered " + got + ", due is " + want);
+        }
+    }
+
+    void due(String call, boolean got, boolean want) {
+        due(call, got ? 1L : 0L, want ? 1L : 0L);
+    }
+
+    int wrong() {
+        return wrong;
+    }
+
+    void end() {
+        System.out.println(checked + " answers, " + wrong + " not as due");
+        if (wrong != 0) {
+            System.exit(1);
+        }
+    }
+}
