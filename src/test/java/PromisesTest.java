@@ -227,6 +227,12 @@ public final class PromisesTest {
         due("P6 the taker", giver.in(1), true);
         due("P6 the giver", giver.in(0), false);
 
+        GridDesk behind = deskWithItems(2);
+        behind.net(0, 0, -2);
+        behind.net(1, 0, 1);
+        due("P6 a giver behind a taker that cannot", behind.solve(), 1);
+        due("P6 that giver", behind.in(1), true);
+
         GridDesk later = deskWithItems(3);
         later.place(0, 5, 0);
         later.net(0, 0, -3);
