@@ -2,12 +2,20 @@
 final class Check {
     private int wrong;
     private int checked;
+    private int sentences;
+    private String sentence = "";
+
+    /** The document's words that the answers from here on are due by. */
+    void sentence(String words) {
+        sentence = "\"" + words + "\": ";
+        sentences++;
+    }
 
     void due(String call, long got, long want) {
         checked++;
         if (got != want) {
             wrong++;
-            System.out.println(call + " answered " + got + ", due is " + want);
+            System.out.println(sentence + call + " answered " + got + ", due is " + want);
         }
     }
 
@@ -20,7 +28,8 @@ final class Check {
     }
 
     void end() {
-        System.out.println(checked + " answers, " + wrong + " not as due");
+        String of = sentences > 0 ? " for " + sentences + " sentences" : "";
+        System.out.println(checked + " answers" + of + ", " + wrong + " not as due");
         if (wrong != 0) {
             System.exit(1);
         }

@@ -35,16 +35,8 @@ public final class PromisesTest {
         CHECK.due(call, got, want);
     }
 
-    private static GridDesk deskWithItems(int items) {
-        GridDesk desk = new GridDesk();
-        for (int i = 0; i < items; i++) {
-            desk.item();
-        }
-        return desk;
-    }
-
     private static void newObject() {
-        GridDesk desk = new GridDesk();
+        CountedDesk desk = new CountedDesk();
         for (int what = 0; what < 3; what++) {
             due("P1 count " + what, desk.count(what), 0);
         }
@@ -56,7 +48,7 @@ public final class PromisesTest {
         due("P1 net", desk.net(0, 0, 1), false);
         due("P1 solve", desk.solve(), 0);
         due("P1 perform", desk.perform(), 0);
-        GridDesk other = new GridDesk();
+        CountedDesk other = new CountedDesk();
         other.item();
         other.place(0, 5, 0);
         due("P1 objects are apart, count", desk.count(0), 0);
@@ -64,7 +56,7 @@ public final class PromisesTest {
     }
 
     private static void place() {
-        GridDesk desk = new GridDesk();
+        CountedDesk desk = new CountedDesk();
         due("P2 first position", desk.place(0, 7, 3), true);
         due("P2 last position", desk.place(299, VALUE, -VALUE), true);
         due("P2 value of the first", desk.value(0), 7);
@@ -93,7 +85,7 @@ public final class PromisesTest {
     }
 
     private static void item() {
-        GridDesk desk = new GridDesk();
+        CountedDesk desk = new CountedDesk();
         for (int i = 0; i < 200; i++) {
             due("P3 item", desk.item(), i);
         }
@@ -106,14 +98,14 @@ public final class PromisesTest {
         due("P3 all without takes are good", desk.perform(), 199);
         due("P3 done items stay items", desk.item(), -1);
 
-        GridDesk few = deskWithItems(2);
+        CountedDesk few = CountedDesk.withItems(2);
         few.go(1);
         due("P3 numbers are not used again", few.item(), 2);
         due("P3 a new item's net", few.netOf(2, 0), 0);
     }
 
     private static void netRange() {
-        GridDesk desk = deskWithItems(1);
+        CountedDesk desk = CountedDesk.withItems(1);
         due("P4 top", desk.net(0, 0, NET), true);
         due("P4 above the top", desk.net(0, 0, 1), false);
         due("P4 kept at the top", desk.netOf(0, 0), NET);
@@ -139,7 +131,7 @@ public final class PromisesTest {
     }
 
     private static void netPositions() {
-        GridDesk desk = deskWithItems(2);
+        CountedDesk desk = CountedDesk.withItems(2);
         for (int p = 0; p < 16; p++) {
             due("P4 of 16 positions " + p, desk.net(0, 10 * p, p + 1), true);
         }
@@ -163,7 +155,7 @@ public final class PromisesTest {
     }
 
     private static void netOnItemsNotThere() {
-        GridDesk desk = deskWithItems(3);
+        CountedDesk desk = CountedDesk.withItems(3);
         due("P4 item not yet", desk.net(3, 0, 1), false);
         for (int i : NO_ITEMS) {
             due("P4 no item " + i, desk.net(i, 0, 1), false);
@@ -177,7 +169,7 @@ public final class PromisesTest {
     }
 
     private static void go() {
-        GridDesk desk = deskWithItems(3);
+        CountedDesk desk = CountedDesk.withItems(3);
         due("P5 not yet", desk.go(3), false);
         for (int i : NO_ITEMS) {
             due("P5 no item " + i, desk.go(i), false);
@@ -193,7 +185,7 @@ public final class PromisesTest {
     }
 
     private static void solveOrder() {
-        GridDesk desk = deskWithItems(4);
+        CountedDesk desk = CountedDesk.withItems(4);
         desk.place(0, 5, 0);
         desk.place(1, 100, 0);
         desk.net(0, 0, -6);
@@ -209,7 +201,7 @@ public final class PromisesTest {
         desk.net(0, 1, 1);
         due("P6 takes no more, no order", desk.solve(), 4);
 
-        GridDesk gone = deskWithItems(2);
+        CountedDesk gone = CountedDesk.withItems(2);
         gone.place(0, 5, 0);
         gone.net(0, 0, -6);
         gone.net(1, 0, -5);
@@ -217,7 +209,7 @@ public final class PromisesTest {
         gone.go(0);
         due("P6 an item gone holds up none", gone.solve(), 1);
 
-        GridDesk giver = deskWithItems(2);
+        CountedDesk giver = CountedDesk.withItems(2);
         giver.net(0, 0, 3);
         giver.net(0, 1, -1);
         giver.net(1, 0, -1);
@@ -227,13 +219,13 @@ public final class PromisesTest {
         due("P6 the taker", giver.in(1), true);
         due("P6 the giver", giver.in(0), false);
 
-        GridDesk behind = deskWithItems(2);
+        CountedDesk behind = CountedDesk.withItems(2);
         behind.net(0, 0, -2);
         behind.net(1, 0, 1);
         due("P6 a giver behind a taker that cannot", behind.solve(), 1);
         due("P6 that giver", behind.in(1), true);
 
-        GridDesk later = deskWithItems(3);
+        CountedDesk later = CountedDesk.withItems(3);
         later.place(0, 5, 0);
         later.net(0, 0, -3);
         later.net(1, 0, -3);
@@ -243,7 +235,7 @@ public final class PromisesTest {
     }
 
     private static void solveFloors() {
-        GridDesk desk = deskWithItems(2);
+        CountedDesk desk = CountedDesk.withItems(2);
         desk.place(0, 10, 4);
         desk.net(0, 0, -6);
         due("P6 down to the floor", desk.solve(), 2);
@@ -256,7 +248,7 @@ public final class PromisesTest {
         due("P6 solving does nothing", desk.value(0), -10);
         due("P6 solving ends no item", desk.count(1), 2);
 
-        GridDesk ring = deskWithItems(3);
+        CountedDesk ring = CountedDesk.withItems(3);
         for (int i = 0; i < 3; i++) {
             ring.net(i, i, -NET);
             ring.net(i, (i + 1) % 3, NET);
@@ -269,7 +261,7 @@ public final class PromisesTest {
     }
 
     private static void solveExtremes() {
-        GridDesk desk = deskWithItems(200);
+        CountedDesk desk = CountedDesk.withItems(200);
         desk.place(0, VALUE, -VALUE);
         desk.place(1, -VALUE, -VALUE);
         for (int i = 0; i < 100; i++) {
@@ -281,7 +273,7 @@ public final class PromisesTest {
         due("P6 takers out", desk.in(100), false);
         due("P8 far above the top", desk.perform(), -1);
 
-        GridDesk deep = deskWithItems(200);
+        CountedDesk deep = CountedDesk.withItems(200);
         deep.place(0, VALUE, -VALUE);
         for (int i = 0; i < 200; i++) {
             deep.net(i, 0, -NET);
@@ -293,7 +285,7 @@ public final class PromisesTest {
     private static void solveCascade() {
         // As long as 512 calls on one object allow.
         int last = 168;
-        GridDesk desk = deskWithItems(last + 1);
+        CountedDesk desk = CountedDesk.withItems(last + 1);
         for (int i = 0; i <= last; i++) {
             desk.net(i, i + 1, -1);
             if (i > 0) {
@@ -308,7 +300,7 @@ public final class PromisesTest {
     }
 
     private static void in() {
-        GridDesk desk = deskWithItems(2);
+        CountedDesk desk = CountedDesk.withItems(2);
         due("P7 none at first", desk.in(0), false);
         for (int i : NO_ITEMS) {
             due("P7 no item " + i, desk.in(i), false);
@@ -336,7 +328,7 @@ public final class PromisesTest {
     }
 
     private static void perform() {
-        GridDesk desk = deskWithItems(3);
+        CountedDesk desk = CountedDesk.withItems(3);
         desk.place(0, 10, 0);
         desk.net(0, 0, -10);
         desk.net(0, 299, 4);
@@ -361,7 +353,7 @@ public final class PromisesTest {
     }
 
     private static void performTooHigh() {
-        GridDesk desk = deskWithItems(2);
+        CountedDesk desk = CountedDesk.withItems(2);
         desk.place(3, VALUE - 5, 0);
         desk.place(4, 1, 0);
         desk.net(0, 3, 6);
@@ -379,14 +371,14 @@ public final class PromisesTest {
         due("P8 value at the top", desk.value(3), VALUE);
         due("P8 other value", desk.value(4), 0);
 
-        GridDesk last = deskWithItems(1);
+        CountedDesk last = CountedDesk.withItems(1);
         last.place(299, VALUE, VALUE);
         last.net(0, 299, 1);
         due("P8 last position above", last.perform(), -1);
     }
 
     private static void value() {
-        GridDesk desk = new GridDesk();
+        CountedDesk desk = new CountedDesk();
         for (int p = 0; p < 300; p++) {
             desk.place(p, p + 1, 0);
         }
@@ -398,7 +390,7 @@ public final class PromisesTest {
     }
 
     private static void netOf() {
-        GridDesk desk = deskWithItems(3);
+        CountedDesk desk = CountedDesk.withItems(3);
         desk.net(0, 0, 5);
         desk.net(1, 0, -6);
         desk.net(2, 299, 7);
@@ -421,7 +413,7 @@ public final class PromisesTest {
     }
 
     private static void count() {
-        GridDesk desk = deskWithItems(5);
+        CountedDesk desk = CountedDesk.withItems(5);
         desk.net(4, 0, -1);
         desk.go(0);
         due("P11 no set yet", desk.count(2), 0);
