@@ -1,14 +1,14 @@
 import java.util.Random;
 
 /**
- * "What later calls answer is free", but no call may throw or fail to end: any arguments, also far
- * beyond the 512th call, and what the document says of every answer in the first 512.
+ * "What later calls answer is free", but no call may throw or fail to end, for any arguments and
+ * far beyond the 512th call; the answers of the first 512 lie within the limits of the document.
  */
 public final class AnyCallTest {
     private static final long VALUE = 1_000_000_000_000_000_000L;
     private static final long NET = 1_000_000_000_000_000L;
-    private static final int RUNS = 150;
-    private static final int CALLS = 4000;
+    private static final int RUNS = 100;
+    private static final int CALLS = 8000;
     private static final int[] INTS = {
         Integer.MIN_VALUE, -300, -2, -1, 0, 1, 2, 3, 15, 16, 17, 198, 199, 200, 201, 298, 299, 300,
         301, Integer.MAX_VALUE,

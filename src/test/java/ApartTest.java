@@ -40,12 +40,18 @@ public final class ApartTest {
         CHECK.due("new, the old one's set", made.in(0), false);
         made.net(0, 299, -1);
         CHECK.due("new, without the old one's givers", made.perform(), 0);
+        made.place(299, 9, 8);
+        CHECK.due("new, its floor", made.perform(), 1);
         CHECK.due("old, there", old.count(1), 199);
         CHECK.due("old, its net", old.netOf(199, 299), 1);
         CHECK.due("old, its set", old.in(0), true);
         CHECK.due("old, perform", old.perform(), 199);
         CHECK.due("old, its value", old.value(299), 8 - 5 + 194);
-        CHECK.due("new, its value", made.value(299), 0);
+        old.place(1, 0, -1);
+        made.item();
+        made.net(1, 1, -1);
+        CHECK.due("new, not the old one's floor", made.solve(), 0);
+        CHECK.due("new, its value", made.value(299), 8);
     }
 
     private static long[] answersAlone(int seed) {
@@ -80,7 +86,7 @@ public final class ApartTest {
         int amount = random.nextInt(21) - 11;
         switch (random.nextInt(16)) {
             case 0:
-                return desk.place(position, 12 + amount, 0) ? 1 : 0;
+                return desk.place(position, 12 + amount, item % 20 - 10) ? 1 : 0;
             case 1:
             case 2:
                 return desk.item();
